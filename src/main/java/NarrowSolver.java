@@ -426,7 +426,7 @@ public final class NarrowSolver {
             return place == 0;
         }
 
-        Node childOf(int wanted) {
+        Node childFor(int wanted) {
             Node child = firstChild;
             while (child != null && child.constructor != wanted) {
                 child = child.next;
@@ -587,7 +587,9 @@ public final class NarrowSolver {
             int at = 0;
             for (int i = 0; i < pattern.size && i < shut.length; i++) {
                 if (isVariable(pattern.at(i))) {
-                    shut[i] |= isVariable(left.at(at));
+                    if (isVariable(left.at(at))) {
+                        shut[i] = true;
+                    }
                     at = symbols.endOfTerm(left, at);
                 } else {
                     at++;
@@ -849,7 +851,7 @@ public final class NarrowSolver {
                     at = needed;
                     node = rootFor(at);
                 } else {
-                    node = node.childOf(number);
+                    node = node.childFor(number);
                 }
             }
             return false;

@@ -5,7 +5,8 @@ import java.util.Random;
 
 /** Made-up programs and problems, run by the solver and by the plain model side by side: all that can be asked must be the same. */
 public final class ModelTest {
-    private static final int RUNS = 3000;
+    private static final int RUNS = 1200;
+    private static final int[] EDGES = {Integer.MIN_VALUE, -7, -1, 0, 1, 2, 3, 5, 7, 8, 9, 10, 23, 24, 39, 40, 120, 2000, 2001, Integer.MAX_VALUE};
 
     private final Check check = new Check();
     private final long[] reached = new long[9];
@@ -21,6 +22,9 @@ public final class ModelTest {
         ModelTest test = new ModelTest();
         for (int run = 0; run < RUNS; run++) {
             test.runOne(run);
+        }
+        for (int run = RUNS; run < 2 * RUNS; run++) {
+            test.wildCalls(run);
         }
         test.requireReach();
         test.check.end();
@@ -53,6 +57,52 @@ public final class ModelTest {
             note();
         }
         compareNodes();
+    }
+
+    /** Calls in any order with any arguments, on a new object. */
+    private void wildCalls(int number) {
+        run = number;
+        random = new Random(number);
+        x = new NarrowSolver();
+        m = new PlainModel();
+        for (int call = 0; call < 512; call++) {
+            wildCall(random.nextInt(call % 100 < 99 ? 16 : 17));
+        }
+        compareState();
+    }
+
+    private int edge() {
+        return EDGES[random.nextInt(EDGES.length)];
+    }
+
+    /** Mostly small symbols and variables, so that some tapes are terms. */
+    private long bytes() {
+        long w = 0;
+        for (int i = 0; i < 8; i++) {
+            int b = random.nextInt(20) == 0 ? random.nextInt(256) : random.nextBoolean() ? random.nextInt(6) : 100 + random.nextInt(3);
+            w = w << 8 | b;
+        }
+        return w;
+    }
+
+    private void wildCall(int kind) {
+        int a = edge();
+        int b = random.nextInt(3) == 0 ? edge() : random.nextInt(5);
+        int c = random.nextInt(3) == 0 ? edge() : random.nextInt(5);
+        long w = bytes();
+        switch (kind) {
+            case 0 -> same("symbol(true, " + b + ")", x.symbol(true, b), m.symbol(true, b));
+            case 1 -> same("symbol(false, " + b + ")", x.symbol(false, b), m.symbol(false, b));
+            case 2, 3, 4, 5 -> same("feed(" + w + ", " + b + ")", x.feed(w, b), m.feed(w, b));
+            case 6, 7 -> same("rule()", x.rule(), m.rule());
+            case 8, 9 -> same("problem()", x.problem(), m.problem());
+            case 10, 11 -> same("solve(" + c + ")", x.solve(c), m.solve(c));
+            case 12 -> same("answer", x.answer(b, c, a), m.answer(b, c, a));
+            case 13 -> same("node", x.node(a, b, c), m.node(a, b, c));
+            case 14 -> same("waiting", x.waiting(b, a), m.waiting(b, a));
+            case 15 -> same("count", x.count(a), m.count(a));
+            default -> same("clear()", x.clear(), m.clear());
+        }
     }
 
     private void same(String call, int got, int want) {
@@ -281,7 +331,7 @@ public final class ModelTest {
     /** The runs are worth little if they never come to what is to be compared. */
     private void requireReach() {
         for (int what = 0; what < reached.length; what++) {
-            check.due("reached " + what + " often", reached[what] > 50 ? 1 : 0, 1);
+            check.due("reached " + what + " often", reached[what] > 20 ? 1 : 0, 1);
         }
         for (int fault = 11; fault < 20; fault++) {
             if (fault != -NarrowSolver.MANY) {

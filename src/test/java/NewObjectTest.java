@@ -1,0 +1,75 @@
+import java.lang.reflect.Field;
+import java.lang.reflect.Method;
+import java.lang.reflect.Modifier;
+import java.util.Arrays;
+import java.util.TreeSet;
+
+/** Promise 1: a new object has nothing at all; and the face is the document's, no more and no less. */
+public final class NewObjectTest {
+    public static void main(String[] args) {
+        Check check = new Check();
+        nothing(check, new NarrowSolver(), "new");
+        apart(check);
+        face(check);
+        check.end();
+    }
+
+    /** All that can be asked without a change; ClearTest asks it too. */
+    static void nothing(Check check, NarrowSolver x, String about) {
+        for (int what = 0; what <= 8; what++) {
+            check.due(about + ": count(" + what + ")", x.count(what), 0);
+        }
+        check.due(about + ": solutions()", x.solutions(), 0);
+        check.due(about + ": answer(0, 0, 0)", x.answer(0, 0, 0), NarrowSolver.NONE);
+        check.due(about + ": waiting(0, 0)", x.waiting(0, 0), NarrowSolver.NONE);
+        for (int f = 0; f < 24; f++) {
+            check.due(about + ": node(" + f + ", 0, 0)", x.node(f, 0, 0), NarrowSolver.BAD);
+        }
+        check.due(about + ": solve(1)", x.solve(1), 0);
+        check.due(about + ": count(4) after solve", x.count(4), 0);
+    }
+
+    private static void apart(Check check) {
+        NarrowSolver one = Programs.numbers();
+        Check.problem(one, Programs.X, Programs.X);
+        NarrowSolver other = new NarrowSolver();
+        nothing(check, other, "beside another");
+        other.symbol(false, 0);
+        check.due("the first one's symbols", one.count(0), 7);
+    }
+
+    private static void face(Check check) {
+        TreeSet<String> open = new TreeSet<>();
+        for (Field f : NarrowSolver.class.getDeclaredFields()) {
+            if (!Modifier.isPrivate(f.getModifiers())) {
+                open.add(Modifier.toString(f.getModifiers()) + " " + f.getType() + " " + f.getName());
+            }
+        }
+        for (Method m : NarrowSolver.class.getDeclaredMethods()) {
+            if (!Modifier.isPrivate(m.getModifiers()) && !m.isSynthetic()) {
+                open.add(Modifier.toString(m.getModifiers()) + " " + m.getReturnType() + " " + m.getName()
+                    + Arrays.toString(m.getParameterTypes()));
+            }
+        }
+        TreeSet<String> due = new TreeSet<>();
+        for (String name : "NONE BAD FULL ODD SHORT LONG SIDE DEEP TWICE FREE MANY OVER".split(" ")) {
+            due.add("public static final int " + name);
+        }
+        for (String method : ("clear[];symbol[boolean, int];feed[long, int];rule[];problem[];solve[int];solutions[];"
+            + "answer[int, int, int];node[int, int, int];waiting[int, int];count[int]").split(";")) {
+            due.add("public int " + method);
+        }
+        TreeSet<String> different = new TreeSet<>(open);
+        different.addAll(due);
+        different.removeIf(s -> open.contains(s) && due.contains(s));
+        check.due("members that only one of face and class has " + different, different.size(), 0);
+        check.due("constructors", NarrowSolver.class.getDeclaredConstructors().length, 1);
+        check.due("modifiers", NarrowSolver.class.getModifiers(), Modifier.PUBLIC | Modifier.FINAL);
+        int[] values = {NarrowSolver.NONE, NarrowSolver.BAD, NarrowSolver.FULL, NarrowSolver.ODD, NarrowSolver.SHORT, NarrowSolver.LONG,
+            NarrowSolver.SIDE, NarrowSolver.DEEP, NarrowSolver.TWICE, NarrowSolver.FREE, NarrowSolver.MANY, NarrowSolver.OVER};
+        int[] want = {-1, -2, -3, -11, -12, -13, -14, -15, -16, -17, -18, -19};
+        for (int i = 0; i < want.length; i++) {
+            check.due("constant " + i, values[i], want[i]);
+        }
+    }
+}

@@ -1,12 +1,57 @@
 /** Promise 2: clear makes all as at first, and tells how many symbols there were. */
 public final class ClearTest {
+    private final Check check = new Check();
+
     public static void main(String[] args) {
-        Check check = new Check();
+        ClearTest test = new ClearTest();
+        test.newObject();
+        test.fullObject();
+        test.inTheMiddle();
+        test.eachKindAlone();
+        test.numbersBeginAgain();
+        test.check.end();
+    }
+
+    private void newObject() {
         NarrowSolver x = new NarrowSolver();
         check.due("clear() of a new one", x.clear(), 0);
         NewObjectTest.nothing(check, x, "cleared at first");
-        x = Programs.numbers();
-        // solutions, waiting problems, steps, failures, rules used and a tape: all of it must go
+        check.due("clear() again", x.clear(), 0);
+    }
+
+    private void fullObject() {
+        NarrowSolver x = Programs.full();
+        full(x);
+        check.due("clear() of a full one", x.clear(), 24);
+        NewObjectTest.nothing(check, x, "cleared of all");
+        Programs.fill(x);
+        full(x);
+        check.due("clear() of one that is full again", x.clear(), 24);
+        check.due("clear() again", x.clear(), 0);
+        NewObjectTest.nothing(check, x, "cleared of all again");
+    }
+
+    /** Nothing more goes into it, and what it has is the same whether it was filled before or not. */
+    private void full(NarrowSolver x) {
+        for (int what = 0; what <= 8; what++) {
+            check.due("full: count(" + what + ")", x.count(what), Programs.FULL_COUNTS[what]);
+        }
+        check.due("full: symbol", x.symbol(false, 0), NarrowSolver.FULL);
+        check.due("full: feed", x.feed(0, 1), NarrowSolver.FULL);
+        check.due("full: a PROBLEM 40", x.waiting(39, 0), 1);
+        check.due("full: no 41st", x.waiting(40, 0), NarrowSolver.NONE);
+        check.answers("full: the 30th", x, 29, 1, Programs.tower(30));
+        check.due("full: a rule too many", fedRule(x), NarrowSolver.MANY);
+    }
+
+    private static int fedRule(NarrowSolver x) {
+        x.rule();
+        return Check.rule(x, 23, 2, 2);
+    }
+
+    /** Solutions, waiting problems, steps, failures, rules used and a tape: all of it must go. */
+    private void inTheMiddle() {
+        NarrowSolver x = Programs.numbers();
         Check.problem(x, Programs.PLUS, Programs.X, Programs.Y, Programs.S, Programs.S, Programs.Z);
         x.solve(8);
         check.due("some solutions", x.solutions() > 0 ? 1 : 0, 1);
@@ -14,19 +59,28 @@ public final class ClearTest {
         Check.feed(x, 1, 2, 3);
         check.due("clear()", x.clear(), 7);
         NewObjectTest.nothing(check, x, "cleared");
-        check.due("clear() again", x.clear(), 0);
-        x.symbol(true, 1);
-        x.clear();
-        NewObjectTest.nothing(check, x, "cleared of a function");
-        numbersBeginAgain(check);
-        check.end();
     }
 
-    private static void numbersBeginAgain(Check check) {
+    private void eachKindAlone() {
+        NarrowSolver x = new NarrowSolver();
+        x.symbol(true, 1);
+        check.due("clear() of a function alone", x.clear(), 1);
+        NewObjectTest.nothing(check, x, "cleared of a function");
+        x.feed(0, 7);
+        check.due("clear() of a tape alone", x.clear(), 0);
+        NewObjectTest.nothing(check, x, "cleared of a tape");
+        x.problem();
+        check.due("clear() of a solution alone", x.clear(), 0);
+        NewObjectTest.nothing(check, x, "cleared of a solution");
+        Check.problem(x, 100, 101);
+        check.due("clear() of a problem alone", x.clear(), 0);
+        NewObjectTest.nothing(check, x, "cleared of a problem");
+    }
+
+    private void numbersBeginAgain() {
         NarrowSolver x = Programs.numbers();
         x.clear();
-        check.due("symbol", x.symbol(true, 2), 0);
-        for (int f = 1; f < 6; f++) {
+        for (int f = 0; f < 6; f++) {
             check.due("symbol", x.symbol(true, 2), f);
         }
         check.due("no tree is left of the former function", x.node(Programs.PLUS, 0, 0), NarrowSolver.NONE);

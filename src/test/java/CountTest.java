@@ -5,7 +5,9 @@ public final class CountTest {
 
     public static void main(String[] args) {
         CountTest test = new CountTest();
+        test.whichWhat();
         test.each();
+        test.fullObject();
         test.sinceProblem();
         test.check.end();
     }
@@ -17,6 +19,25 @@ public final class CountTest {
         for (int what : new int[] {-1, 9, 10, Integer.MIN_VALUE, Integer.MAX_VALUE}) {
             check.due(about + ": count(" + what + ")", x.count(what), NarrowSolver.BAD);
         }
+    }
+
+    private void whichWhat() {
+        NarrowSolver x = Programs.numbers();
+        Check.feed(x, 100, 101, 102);
+        check.due("count(-1)", x.count(-1), NarrowSolver.BAD);
+        check.due("count(0)", x.count(0), 7);
+        check.due("count(8)", x.count(8), 3);
+        check.due("count(9)", x.count(9), NarrowSolver.BAD);
+        check.due("the least", x.count(Integer.MIN_VALUE), NarrowSolver.BAD);
+        check.due("the greatest", x.count(Integer.MAX_VALUE), NarrowSolver.BAD);
+    }
+
+    private void fullObject() {
+        NarrowSolver x = Programs.full();
+        counts("full", x, Programs.FULL_COUNTS);
+        x.symbol(false, 0);
+        x.feed(0, 1);
+        counts("nothing more goes in", x, Programs.FULL_COUNTS);
     }
 
     private void each() {

@@ -3,7 +3,10 @@ import java.util.Collections;
 import java.util.List;
 import java.util.Random;
 
-/** Made-up programs and problems, run by the solver and by the plain model side by side: all that can be asked must be the same. */
+/**
+ * Made-up programs and problems, run by the solver and by the plain model side by side: all that can be asked must be the same.
+ * To ask for so much takes more than the 512 calls that the document promises an object; the solver counts no calls.
+ */
 public final class ModelTest {
     private static final int RUNS = 1200;
     private static final int[] EDGES = {Integer.MIN_VALUE, -7, -1, 0, 1, 2, 3, 5, 7, 8, 9, 10, 23, 24, 39, 40, 120, 2000, 2001, Integer.MAX_VALUE};

@@ -6,7 +6,10 @@ public final class NodeTest {
 
     public static void main(String[] args) {
         NodeTest test = new NodeTest();
-        test.wrong();
+        test.whichFunction();
+        test.whichNode();
+        test.whichWhat();
+        test.badBeforeNone();
         test.leafAlone();
         test.firstVariable();
         test.leastFirst();
@@ -37,23 +40,63 @@ public final class NodeTest {
         }
     }
 
-    private void wrong() {
+    /** Functions 5 and 6 between what is none: constructors below, and above what has not come yet. */
+    private void whichFunction() {
         NarrowSolver x = Programs.numbers();
-        for (int f : new int[] {-1, Z, S, TRIO, 7, 24, Integer.MIN_VALUE, Integer.MAX_VALUE}) {
-            check.due("no FUNCTION", x.node(f, 0, 0), NarrowSolver.BAD);
-            check.due("no FUNCTION, no node", x.node(f, -1, 0), NarrowSolver.BAD);
+        for (int f : new int[] {-1, Z, S, NIL, CONS, TRIO, 7, 8, 23, 24, 25, Integer.MIN_VALUE, Integer.MAX_VALUE}) {
+            check.due("node of " + f, x.node(f, 0, 0), NarrowSolver.BAD);
         }
-        for (int what : new int[] {-1, Integer.MIN_VALUE}) {
-            check.due("what below 0", x.node(PLUS, 0, what), NarrowSolver.BAD);
-            check.due("what below 0, no node", x.node(PLUS, 100, what), NarrowSolver.BAD);
-            check.due("what below 0, no TREE", x.node(IDLE, 0, what), NarrowSolver.BAD);
-        }
-        noNode(x, IDLE, 0);
-        noNode(x, PLUS, 3);
+        check.due("the first FUNCTION", x.node(PLUS, 0, 0), 1);
+        check.due("the last FUNCTION, without a TREE", x.node(IDLE, 0, 0), NarrowSolver.NONE);
+        x.symbol(true, 3);
+        check.due("one more", x.node(7, 0, 0), NarrowSolver.NONE);
+        check.due("and the next above", x.node(8, 0, 0), NarrowSolver.BAD);
+        x = Programs.full();
+        check.due("FUNCTION 23 of 24", x.node(23, 0, 2), 16);
+        check.due("there is no 24", x.node(24, 0, 2), NarrowSolver.BAD);
+    }
+
+    private void whichNode() {
+        NarrowSolver x = Programs.numbers();
         noNode(x, PLUS, -1);
+        node(x, PLUS, 0, false, 1, 1, 2);
+        node(x, PLUS, 2, true, 1);
+        noNode(x, PLUS, 3);
+        noNode(x, PLUS, 4);
         noNode(x, PLUS, Integer.MAX_VALUE);
         noNode(x, PLUS, Integer.MIN_VALUE);
-        node(x, PLUS, 0, false, 1, 1, 2);
+        noNode(x, IDLE, -1);
+        noNode(x, IDLE, 0);
+        noNode(x, IDLE, 1);
+    }
+
+    private void whichWhat() {
+        NarrowSolver x = Programs.numbers();
+        int[] branch = {NarrowSolver.BAD, 1, 1, 2, 1, 2, NarrowSolver.NONE, NarrowSolver.NONE};
+        int[] leaf = {NarrowSolver.BAD, 0, 1, 0, NarrowSolver.NONE, NarrowSolver.NONE, NarrowSolver.NONE, NarrowSolver.NONE};
+        for (int what = -1; what <= 6; what++) {
+            check.due("a BRANCH: " + what, x.node(PLUS, 0, what), branch[what + 1]);
+            check.due("a LEAF: " + what, x.node(PLUS, 2, what), leaf[what + 1]);
+        }
+        for (int k = 0; k <= 2; k++) {
+            check.due("the least what", x.node(PLUS, k, Integer.MIN_VALUE), NarrowSolver.BAD);
+            check.due("the greatest what", x.node(PLUS, k, Integer.MAX_VALUE), NarrowSolver.NONE);
+        }
+        x = Programs.twenty();
+        check.due("the 20th of 20 CONSTRUCTORS", x.node(20, 0, 22), 20);
+        check.due("a 21st", x.node(20, 0, 23), NarrowSolver.NONE);
+    }
+
+    private void badBeforeNone() {
+        NarrowSolver x = Programs.numbers();
+        for (int k : new int[] {-1, 3, Integer.MIN_VALUE, Integer.MAX_VALUE}) {
+            check.due("no FUNCTION, no node", x.node(Z, k, 0), NarrowSolver.BAD);
+            check.due("no symbol, no node", x.node(7, k, 0), NarrowSolver.BAD);
+            check.due("what below 0, no node", x.node(PLUS, k, -1), NarrowSolver.BAD);
+            check.due("what below 0, no TREE", x.node(IDLE, k, Integer.MIN_VALUE), NarrowSolver.BAD);
+            check.due("neither FUNCTION nor node nor what", x.node(-1, k, -1), NarrowSolver.BAD);
+        }
+        check.due("no FUNCTION, a what that leads nowhere", x.node(Z, 0, 100), NarrowSolver.BAD);
     }
 
     private void leafAlone() {

@@ -1,4 +1,4 @@
-/** Promise 7: the steps, one kind after the other, and the limits of what waits. */
+/** Promise 7: how many steps are done, and the steps, one kind after the other; SolvingEdgesTest has their limits. */
 public final class SolveTest {
     private static final int Z = Programs.Z, S = Programs.S, NIL = Programs.NIL, CONS = Programs.CONS, TRIO = Programs.TRIO;
     private static final int PLUS = Programs.PLUS, IDLE = Programs.IDLE;
@@ -7,18 +7,17 @@ public final class SolveTest {
 
     public static void main(String[] args) {
         SolveTest test = new SolveTest();
-        test.wrongNumbers();
-        test.howMany();
+        test.stepsBelowOne();
+        test.stepsAbove2000();
+        test.oneStep();
+        test.steps2000();
+        test.noProblemWaits();
         test.variables();
         test.variableAndConstructor();
-        test.occurrence();
         test.constructors();
         test.working();
         test.narrowing();
         test.order();
-        test.size();
-        test.freshVariables();
-        test.room();
         test.check.end();
     }
 
@@ -38,27 +37,66 @@ public final class SolveTest {
         check.due(about + ": nothing is LOST", x.count(7), 0);
     }
 
-    private void wrongNumbers() {
+    /** A problem that goes on for ever, a rule in each step. */
+    private void endless() {
         x = Programs.numbers();
-        Check.problem(x, 100, 101);
-        for (int n : new int[] {0, -1, 2001, Integer.MIN_VALUE, Integer.MAX_VALUE}) {
-            check.due("solve(" + n + ")", x.solve(n), NarrowSolver.BAD);
-        }
-        check.due("no STEP was done", x.count(2), 1);
+        Check.rule(x, IDLE, 100, IDLE, 100);
+        Check.problem(x, IDLE, 100, Z);
     }
 
-    private void howMany() {
-        x = Programs.numbers();
-        check.due("without a problem", x.solve(2000), 0);
-        check.due("a rule that goes on", Check.rule(x, IDLE, 100, IDLE, 100), 2);
-        Check.problem(x, IDLE, 100, Z);
+    private void stepsBelowOne() {
+        endless();
+        for (int n : new int[] {0, -1, -2000, Integer.MIN_VALUE}) {
+            check.due("solve(" + n + ")", x.solve(n), NarrowSolver.BAD);
+            check.due("no STEP was done", x.count(4), 0);
+        }
+    }
+
+    private void stepsAbove2000() {
+        endless();
+        for (int n : new int[] {2001, 2002, Integer.MAX_VALUE}) {
+            check.due("solve(" + n + ")", x.solve(n), NarrowSolver.BAD);
+            check.due("no STEP was done", x.count(4), 0);
+        }
+    }
+
+    private void oneStep() {
+        endless();
         check.due("solve(1)", x.solve(1), 1);
+        check.due("STEPS", x.count(4), 1);
+        check.due("solve(1)", x.solve(1), 1);
+        check.due("STEPS", x.count(4), 2);
+    }
+
+    private void steps2000() {
+        endless();
+        check.due("solve(1999)", x.solve(1999), 1999);
+        check.due("STEPS", x.count(4), 1999);
         check.due("solve(2000)", x.solve(2000), 2000);
+        check.due("STEPS", x.count(4), 3999);
         check.due("solve(2000)", x.solve(2000), 2000);
-        check.due("STEPS", x.count(4), 4001);
-        check.due("RULES used", x.count(6), 4001);
+        check.due("STEPS go above 2000 and on", x.count(4), 5999);
+        check.due("RULES used", x.count(6), 5999);
+    }
+
+    private void noProblemWaits() {
+        x = new NarrowSolver();
+        check.due("solve(1) of a new one", x.solve(1), 0);
+        check.due("solve(2000) of a new one", x.solve(2000), 0);
+        check.due("solve(0) is BAD all the same", x.solve(0), NarrowSolver.BAD);
+        check.due("solve(2001) is BAD all the same", x.solve(2001), NarrowSolver.BAD);
+        check.due("STEPS", x.count(4), 0);
+        x.problem();
+        check.due("a SOLUTION at first", x.solve(2000), 0);
+        x = Programs.numbers();
         Check.problem(x, Z, Z, S, Z, S, Z);
-        check.due("as long as PROBLEMS wait", x.solve(2000), 3);
+        check.due("just as many as there are", x.solve(3), 3);
+        check.due("then none", x.solve(1), 0);
+        Check.problem(x, Z, Z, S, Z, S, Z);
+        check.due("more than there are", x.solve(4), 3);
+        Check.problem(x, Z, NIL);
+        check.due("after one that FAILS", x.solve(2000), 1);
+        check.due("STEPS", x.count(4), 1);
     }
 
     private void variables() {
@@ -90,22 +128,6 @@ public final class SolveTest {
         check.answers("a SOLUTION", x, 0, 5, NIL);
         step("constructor of three", 100, TRIO, 101, 102, 103);
         check.waits("first argument's first", x, 0, 110, 101, 111, 102, 112, 103);
-    }
-
-    private void occurrence() {
-        fails("within its own constructor", 100, S, 100);
-        fails("the other way round", S, 100, 100);
-        fails("deep within", 100, CONS, Z, CONS, S, 100, Z);
-        fails("within a function, and beside it", 100, CONS, PLUS, 100, Z, 100);
-        fails("beside a function, and within it", CONS, 100, PLUS, 100, Z, 100);
-        step("within a function alone", 100, S, PLUS, 100, Z);
-        check.waits("goes on", x, 0, 110, PLUS, S, 110, Z);
-        step("within a function alone, the other way round", CONS, IDLE, S, 100, Z, 100);
-        check.waits("goes on", x, 0, IDLE, S, CONS, 110, 111, 110, Z, 111);
-        step("within two functions side by side", 100, CONS, IDLE, 100, IDLE, 100);
-        check.waits("goes on", x, 0, 110, IDLE, CONS, 110, 111, 111, IDLE, CONS, 110, 111);
-        step("another variable", 100, S, 101);
-        check.waits("goes on", x, 0, 110, 101);
     }
 
     private void constructors() {
@@ -181,103 +203,5 @@ public final class SolveTest {
         check.answers("1 + 0", x, 1, 1, Z);
         check.due("both ways", x.solutions(), 2);
         check.due("FAILED", x.count(5), 1);
-    }
-
-    private void size() {
-        x = Programs.numbers();
-        Check.rule(x, IDLE, 100, TRIO, 100, 100, 100);
-        Check.problem(x, Programs.join(Programs.of(IDLE), Programs.tower(96), Programs.of(Z)));
-        x.solve(1);
-        check.due("SIZE may be 300", x.waiting(0, 1), 300);
-        check.due("the last number", x.waiting(0, 3 + 289), Z);
-        check.due("none behind", x.waiting(0, 3 + 290), NarrowSolver.NONE);
-        check.due("not LOST", x.count(7), 0);
-        Check.problem(x, Programs.join(Programs.of(IDLE), Programs.tower(96), Programs.of(S, Z)));
-        check.due("solve(2000)", x.solve(2000), 1);
-        check.due("SIZE may not be 301", x.count(2), 0);
-        check.due("LOST", x.count(7), 1);
-        check.due("not FAILED", x.count(5), 0);
-        check.due("a RULE was used", x.count(6), 1);
-        Check.problem(x, Programs.join(Programs.of(IDLE, IDLE), Programs.tower(100), Programs.of(Z)));
-        x.solve(5);
-        check.due("far above", x.count(7), 1);
-        narrowedSize();
-        boundSize();
-    }
-
-    /** Of the problems that come of one step, those are LOST that are too large, and the others wait. */
-    private void narrowedSize() {
-        for (int padding = 9; padding <= 10; padding++) {
-            x = Programs.numbers();
-            x.symbol(true, 2);
-            Check.rule(x, 7, 100, 101, PLUS, 100, TRIO, 101, 101, 101);
-            int[] many = new int[61];
-            for (int i = 0; i < many.length; i++) {
-                many[i] = i % 2 == 0 && i < 60 ? CONS : 100;
-            }
-            Check.problem(x, Programs.join(Programs.of(7, 100), many, Programs.tower(padding)));
-            x.solve(1);
-            check.due("SIZE before", x.waiting(0, 1), 1 + 1 + 1 + 3 * 61 + padding + 10);
-            x.solve(1);
-            check.due("Z goes", x.waiting(0, 1), 196 + padding);
-            check.due("S goes if there is room", x.waiting(1, 1), padding == 9 ? 300 : NarrowSolver.NONE);
-            check.due("LOST", x.count(7), padding == 9 ? 0 : 1);
-            check.due("not FAILED", x.count(5), 0);
-        }
-    }
-
-    /** A step's SIZE is that of what comes of it: between binding and splitting it would be two more. */
-    private void boundSize() {
-        for (int lost = 0; lost <= 1; lost++) {
-            int bound = 69 + lost;
-            int others = 5 - 3 * lost;
-            int[] rest = new int[bound + others];
-            java.util.Arrays.fill(rest, 0, bound, 100);
-            java.util.Arrays.fill(rest, bound, rest.length, 101);
-            x = Programs.numbers();
-            Check.problem(x, Programs.join(Programs.of(100, TRIO, Z, Z, Z), rest));
-            x.solve(1);
-            check.due("SIZE", x.waiting(0, 1), lost == 0 ? 300 : NarrowSolver.NONE);
-            check.due("LOST", x.count(7), lost);
-        }
-    }
-
-    private void freshVariables() {
-        x = Programs.numbers();
-        Check.rule(x, IDLE, S, 100, IDLE, 100);
-        Check.problem(x, IDLE, 100, Z);
-        check.due("71 variables, each used once", x.solve(142), 142);
-        check.due("the next would be 81", x.waiting(0, 2), 81);
-        check.waits("80 is in use", x, 0, IDLE, 180, Z);
-        check.due("not LOST", x.count(7), 0);
-        check.due("81 is one too many", x.solve(10), 1);
-        check.due("LOST", x.count(7), 1);
-        check.due("not FAILED", x.count(5), 0);
-        check.due("none waits", x.count(2), 0);
-    }
-
-    private void room() {
-        x = Programs.twenty();
-        Check.problem(x, 20, 100, 0, 20, 101, 0);
-        check.due("to the second equation", x.solve(41), 41);
-        check.due("twenty wait", x.count(2), 20);
-        x.solve(1);
-        check.due("19 and 20", x.count(2), 39);
-        check.due("none is LOST", x.count(7), 0);
-        x.solve(1);
-        check.due("38 and 2", x.count(2), 40);
-        check.due("18 are LOST", x.count(7), 18);
-        check.waits("the first ones have the room", x, 38, 20, 0, 0);
-        check.waits("the first ones have the room", x, 39, 20, 1, 0);
-        x.solve(1);
-        check.due("39 and 1", x.count(2), 40);
-        check.due("19 more", x.count(7), 37);
-        check.waits("the first one has the room", x, 39, 20, 0, 0);
-        x.solve(17);
-        check.due("all second ones", x.count(7), 360);
-        check.due("one comes of each", x.solve(40), 40);
-        check.due("none more is LOST", x.count(7), 360);
-        check.due("all RULES used", x.count(6), 60);
-        check.due("nothing FAILED", x.count(5), 0);
     }
 }

@@ -10,6 +10,7 @@ public final class NewObjectTest {
         Check check = new Check();
         nothing(check, new NarrowSolver(), "new");
         apart(check);
+        the512thCall(check);
         face(check);
         check.end();
     }
@@ -36,6 +37,17 @@ public final class NewObjectTest {
         nothing(check, other, "beside another");
         other.symbol(false, 0);
         check.due("the first one's symbols", one.count(0), 7);
+    }
+
+    /** Up to the last call that the document speaks of, all is as in the first ones. */
+    private static void the512thCall(Check check) {
+        NarrowSolver x = new NarrowSolver();
+        for (int call = 1; call <= 510; call += 2) {
+            check.due("feed as call " + call, x.feed(100, 1), 1);
+            check.due("rule as call " + (call + 1), x.rule(), NarrowSolver.SHORT);
+        }
+        check.due("symbol as call 511", x.symbol(false, 0), 0);
+        check.due("clear as call 512", x.clear(), 1);
     }
 
     private static void face(Check check) {

@@ -45,6 +45,7 @@ public final class TermsEdgesTest {
         test.tapeOf120AsProblem();
         test.fortyRules();
         test.numberThatIsOdd();
+        test.numberThatBecomesASymbol();
         test.tapeThatIsShort();
         test.tapeThatIsLong();
         test.sideWithoutFunction();
@@ -174,6 +175,19 @@ public final class TermsEdgesTest {
         rule("a number below variable 0", ODD, IDLE, 99, 100);
         rule("variable 9", 2, IDLE, 109, 109);
         rule("a variable 10", ODD, IDLE, 110, 109);
+    }
+
+    /** What a number is counts when the tape is taken, not when it comes. */
+    private void numberThatBecomesASymbol() {
+        NarrowSolver x = Programs.numbers();
+        Check.feed(x, 7, 100, 100);
+        check.due("a symbol more while they are on the tape", x.symbol(true, 1), 7);
+        check.due("a rule of it", x.rule(), 2);
+        Check.feed(x, 8, 100);
+        check.due("a symbol more while they are on the tape", x.symbol(false, 0), 8);
+        check.due("a problem with it", x.problem(), 1);
+        Check.feed(x, 9, 100);
+        check.due("without the symbol", x.problem(), ODD);
     }
 
     private void tapeThatIsShort() {

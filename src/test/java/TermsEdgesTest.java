@@ -29,6 +29,7 @@ public final class TermsEdgesTest {
         {SIDE, TWICE, CONS, 100, 100, Z},
         {SIDE, FREE, S, 100, 101},
         {DEEP, TWICE, PLUS, 100, IDLE, 100, Z},
+        {DEEP, TWICE, PLUS, CONS, 100, 100, IDLE, Z, Z},
         {DEEP, FREE, IDLE, IDLE, 100, 101},
         {DEEP, OVER, PLUS, 100, IDLE, 101, Z},
         {TWICE, FREE, PLUS, 100, 100, 101},
